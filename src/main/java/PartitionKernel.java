@@ -36,7 +36,7 @@ public final class PartitionKernel {
     private static final int ACTION_RESTART = 3;
     private static final int ACTION_STOP = 4;
 
-    /** What a step answers beside the kinds of error: they are below 0, so that no kind is met. */
+    /** What a step answers beside an error's kind; below 0, so that no kind is the same. */
     private static final int FINE = -1;
     private static final int CALLED = -2;
 
@@ -651,8 +651,7 @@ public final class PartitionKernel {
                 case 1:
                     return count;
                 case 2:
-                    Proc p = first(READY, NONE);
-                    return p == null ? NONE : p.number;
+                    return firstReadyNumber();
                 case 3:
                     return restarts;
                 default:
@@ -765,6 +764,11 @@ public final class PartitionKernel {
             return 0;
         }
 
+        private int firstReadyNumber() {
+            Proc p = first(READY, NONE);
+            return p == null ? NONE : p.number;
+        }
+
         private static boolean isSemaphore(int semaphore) {
             return semaphore >= 0 && semaphore < SEMAPHORE_COUNT;
         }
@@ -773,8 +777,8 @@ public final class PartitionKernel {
             Proc best = null;
             for (int k = 0; k < count; k++) {
                 Proc p = processes[k];
-                boolean due = p.state == WAITS_TIME && p.waitTime <= now;
-                if (due && (best == null || p.waitTime < best.waitTime)) {
+                boolean wakes = p.state == WAITS_TIME && p.waitTime <= now;
+                if (wakes && (best == null || p.waitTime < best.waitTime)) {
                     best = p;
                 }
             }

@@ -275,6 +275,7 @@ final class CallsTest {
         ready("all wait", k, 3, 3, 3, 3);
         k.run(4);
         ready("the greatest, the first of these", k, 3, 1, 3, 3);
+        answer("call 7 that wakes", k, 0);
         CHECK.same("waits for none", k.state(0, 2, 5), -1);
         k.run(4);
         ready("the second", k, 3, 1, 1, 3);

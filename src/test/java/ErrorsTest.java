@@ -13,6 +13,7 @@ final class ErrorsTest {
         eachKindHasItsAction();
         restartWakesAll();
         restartByNumbers();
+        restartClearsEachSemaphore();
         restartKeepsPriority();
         stoppedStaysStopped();
         errorsStayWhereTheyAre();
@@ -168,6 +169,23 @@ final class ErrorsTest {
         CHECK.same("process 1 is first now", k.partition(0, 2), 1);
         k.run(1);
         CHECK.same("by numbers again", k.partition(0, 2), 0);
+    }
+
+    private static void restartClearsEachSemaphore() {
+        PartitionKernel k = new PartitionKernel();
+        k.process(0, 0, 5, 0, 0);
+        Asm.place(k, 0, 0, Asm.join(Asm.call(7, 0, 0), Asm.call(7, 1, 0), Asm.call(7, 2, 0), Asm.call(7, 3, 0), Asm.words(0)));
+        k.window(0, 40);
+        k.action(0, 0, 3);
+        k.begin();
+        k.run(16);
+        for (int s = 4; s < 8; s++) {
+            CHECK.same("given", k.partition(0, s), 1);
+        }
+        k.run(1);
+        for (int s = 4; s < 8; s++) {
+            CHECK.same("0 again", k.partition(0, s), 0);
+        }
     }
 
     private static void restartKeepsPriority() {

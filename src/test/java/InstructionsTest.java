@@ -158,6 +158,9 @@ final class InstructionsTest {
         due("half with sign", done(Asm.load(1, 3, 1, 2), 1020, word), 3, 0xFFFFF1E2, 516);
         due("half without", done(Asm.load(5, 3, 1, 0), 1020, word), 3, 0x83D4, 516);
         due("half without", done(Asm.load(5, 3, 1, 2), 1020, word), 3, 0xF1E2, 516);
+        due("odd half", done(Asm.load(5, 3, 1, 0), 1020, 0x0001FFFF), 3, 0xFFFF, 516);
+        due("odd half", done(Asm.load(1, 3, 1, 2), 1020, 0x00010000), 3, 1, 516);
+        due("odd byte", done(Asm.load(4, 3, 1, 0), 1020, 0xFFFFFFFF), 3, 0xFF, 516);
         due("small half with sign", done(Asm.load(1, 3, 1, 0), 1020, 0x7FFF), 3, 0x7FFF, 516);
         due("small byte with sign", done(Asm.load(0, 3, 1, 0), 1020, 0x7F), 3, 0x7F, 516);
         due("word", done(Asm.load(2, 3, 1, 0), 1020, word), 3, word, 516);

@@ -7,6 +7,7 @@ final class TickTest {
         greatestPriority();
         equalsDoNotTakeTurns();
         sleepersByTimeThenNumber();
+        fullPartition();
         sleepersStandBehind();
         sleeperWakesInItsWindowAlone();
         semaphoreStandsBehind();
@@ -110,6 +111,28 @@ final class TickTest {
         PartitionKernel back = sleepers(47, 42, 37, 32);
         back.run(50);
         order("by times alone", back, 3, 2, 1, 0);
+    }
+
+    /** Eight sleepers of different times, and eight that are too late: a full partition. */
+    private static void fullPartition() {
+        PartitionKernel k = sleepers(31, 31, 31, 31, 31, 31, 31, 31);
+        k.run(50);
+        order("eight by their times", k, 0, 1, 2, 3, 4, 5, 6, 7);
+        PartitionKernel late = new PartitionKernel();
+        for (int n = 0; n < 8; n++) {
+            late.process(0, 0, n, 0, 8 - n);
+        }
+        late.poke(0, 0, Asm.idle());
+        late.window(1, 10);
+        late.window(0, 10);
+        late.begin();
+        CHECK.same("the eighth is the greatest", late.partition(0, 2), 7);
+        late.run(11);
+        CHECK.same("eight are too late", late.about(1), 8);
+        for (int n = 0; n < 8; n++) {
+            CHECK.same("by numbers", late.error(7 - n, 2), n);
+        }
+        did("the eighth", late, 0, 0, 0, 0, 0, 0, 0, 0, 1);
     }
 
     private static void sleepersStandBehind() {
