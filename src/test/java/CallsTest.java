@@ -1,30 +1,80 @@
 import java.util.ArrayDeque;
 
-/** The terms of CALLS: each of them by its number, its answers and its edges. */
+/** The term of CALLS, sentence by sentence: each of them by its number, its answers and its edges. */
 final class CallsTest {
     private static final Check CHECK = new Check("CallsTest");
+    private static final int LEAST = Integer.MIN_VALUE;
+    private static final int GREATEST = Integer.MAX_VALUE;
 
     public static void main(String[] args) {
-        call0Dormant();
-        call1Release();
-        call1BehindItsTime();
-        call2Wait();
-        call2Edges();
-        call3Begin();
-        call4Priority();
-        call4PlaceInLine();
-        call5Time();
-        call6And7Semaphore();
-        call7Order();
-        call7OrderByPriorityOfNow();
-        call7Greatest();
-        call8Send();
-        call9Queue();
-        call9Sample();
-        channelsOfOthers();
-        call10Raise();
-        otherCalls();
+        CHECK.sentence("the answer comes to x10, PC is 4 more", CallsTest::answerAndPc);
+        CHECK.sentence("0: it is DORMANT (no answer)", CallsTest::call0Dormant);
+        waits();
+        processes();
+        CHECK.sentence("5: TIME", CallsTest::call5Time);
+        semaphores();
+        channels();
+        CHECK.sentence("10: error 3 (PC stays at the call)", CallsTest::call10Raise);
+        CHECK.sentence("Others: error 0", CallsTest::otherCalls);
         CHECK.finish();
+    }
+
+    private static void waits() {
+        CHECK.sentence("1: with a PERIOD", CallsTest::call1Release);
+        CHECK.sentence("1: a RELEASE that is past", CallsTest::call1BehindItsTime);
+        CHECK.sentence("1: DUE (if there is a DEADLINE)", CallsTest::call1WithoutDeadline);
+        CHECK.sentence("1: a new DUE behind one that was none", CallsTest::call1BehindError2);
+        CHECK.sentence("1: else 1", CallsTest::call1WithoutPeriod);
+        CHECK.sentence("2: it WAITS for now + a", CallsTest::call2Wait);
+        CHECK.sentence("2: a 0", CallsTest::call2Nought);
+        CHECK.sentence("2: a 100000", CallsTest::call2Greatest);
+        CHECK.sentence("2: a not 0 .. 100000: else 1", CallsTest::call2Else);
+    }
+
+    private static void processes() {
+        CHECK.sentence("3: process a, if DORMANT, BEGINS", CallsTest::call3Begin);
+        CHECK.sentence("3: else 1: it is READY", CallsTest::call3OfReady);
+        CHECK.sentence("3: else 1: it WAITS for a time", () -> call3OfWaiting(Asm.call(2, 90, 0), 2));
+        CHECK.sentence("3: else 1: it WAITS for a semaphore", () -> call3OfWaiting(Asm.call(6, 1, 0), 3));
+        CHECK.sentence("3: else 1: it is the caller itself", CallsTest::call3OfItself);
+        CHECK.sentence("3: also if there is none: 1", CallsTest::call3OfNone);
+        CHECK.sentence("4: process a has PRIORITY b", CallsTest::call4Priority);
+        CHECK.sentence("4: of any STATE", CallsTest::call4OfAnyState);
+        CHECK.sentence("4: nobody's place changes", CallsTest::call4PlaceInLine);
+        CHECK.sentence("4: b 0 and 15", CallsTest::call4Edges);
+        CHECK.sentence("4: 1 if b is not 0 .. 15", CallsTest::call4OfOtherPriority);
+        CHECK.sentence("4: 1 if there is none", CallsTest::call4OfNone);
+    }
+
+    private static void semaphores() {
+        CHECK.sentence("6: the count is above 0: one less", CallsTest::call6AboveNought);
+        CHECK.sentence("6: else it WAITS for it, the answer is 0 then, too", CallsTest::call6Waits);
+        CHECK.sentence("6: semaphores 0 .. 3", CallsTest::call6Each);
+        CHECK.sentence("6: of this partition", CallsTest::semaphoresOfThisPartition);
+        CHECK.sentence("6: 1 if there is none", () -> noSemaphore(6));
+        CHECK.sentence("7: the one with the greatest PRIORITY, the first to come of these", CallsTest::call7Order);
+        CHECK.sentence("7: the first to come, with the PRIORITY of now", CallsTest::call7OrderByPriorityOfNow);
+        CHECK.sentence("7: else the count is one more", CallsTest::call7NobodyWaits);
+        CHECK.sentence("7: who waits for another semaphore", CallsTest::call7OfAnother);
+        CHECK.sentence("7: 1 if there is none", () -> noSemaphore(7));
+        CHECK.sentence("7: 1 if it is 1000", CallsTest::call7Greatest);
+    }
+
+    private static void channels() {
+        CHECK.sentence("8: a SAMPLE: b and TIME are kept", CallsTest::call8Sample);
+        CHECK.sentence("8: a QUEUE: b comes to its end", CallsTest::call8Queue);
+        CHECK.sentence("8: a QUEUE: 2 if it is full", CallsTest::call8Full);
+        CHECK.sentence("8: else 1: not from here", CallsTest::call8NotFromHere);
+        CHECK.sentence("8: else 1: no such channel", () -> noChannel(8));
+        CHECK.sentence("9: a SAMPLE: 2 if none was sent", CallsTest::call9NoSample);
+        CHECK.sentence("9: a SAMPLE: x11 is it, and it stays", CallsTest::call9Sample);
+        CHECK.sentence("9: 0 if now is not more than LIMIT behind it, else 3", CallsTest::call9Limits);
+        CHECK.sentence("9: LIMIT 0 and 1, in the very next tick", CallsTest::call9NextTick);
+        CHECK.sentence("9: LIMIT 100000", CallsTest::call9GreatestLimit);
+        CHECK.sentence("9: a QUEUE: 2 if it is empty", CallsTest::call9Empty);
+        CHECK.sentence("8, 9: a QUEUE's words turn round", CallsTest::call9Queue);
+        CHECK.sentence("9: else 1: not to here", CallsTest::call9NotToHere);
+        CHECK.sentence("9: else 1: no such channel", () -> noChannel(9));
     }
 
     private static PartitionKernel one(int period, int deadline, int... program) {
@@ -38,6 +88,31 @@ final class CallsTest {
     private static void answer(String what, PartitionKernel k, int due) {
         CHECK.same(what + ": answer", k.register(0, 0, 10), due);
         CHECK.same(what + ": errors", k.about(1), 0);
+    }
+
+    /** One process that makes a call with any a and b in its fourth tick, and then stands still. */
+    private static PartitionKernel caller(int call, int a, int b) {
+        PartitionKernel k = one(0, 0, Asm.li(17, call), Asm.load(2, 10, 0, 1016), Asm.load(2, 11, 0, 1020), Asm.CALL,
+            Asm.idle());
+        k.poke(0, 1016, a);
+        k.poke(0, 1020, b);
+        return k;
+    }
+
+    private static PartitionKernel called(PartitionKernel k) {
+        k.begin();
+        k.run(4);
+        CHECK.same("PC behind the call", k.state(0, 0, 1), 16);
+        return k;
+    }
+
+    private static void answerAndPc() {
+        for (int call = 1; call < 10; call++) {
+            PartitionKernel k = called(caller(call, 7, 8));
+            answer("call " + call, k, call == 2 ? 0 : call == 5 ? 3 : 1);
+            CHECK.same("x11 stays", k.register(0, 0, 11), 8);
+            CHECK.same("x17 stays", k.register(0, 0, 17), call);
+        }
     }
 
     private static void call0Dormant() {
@@ -71,19 +146,35 @@ final class CallsTest {
         k.run(1);
         CHECK.same("next RELEASE", k.state(0, 0, 4), 60);
         CHECK.same("next DUE", k.state(0, 0, 3), 80);
-        PartitionKernel without = one(30, 0, Asm.call(1, 9, 0));
-        without.begin();
-        without.run(4);
-        answer("call 1 without a DEADLINE", without, 0);
-        CHECK.same("no DUE", without.state(0, 0, 3), -1);
-        CHECK.same("waits", without.state(0, 0, 4), 30);
-        PartitionKernel none = one(0, 20, Asm.call(1, 9, 0));
-        none.begin();
-        none.run(4);
-        answer("call 1 without a PERIOD", none, 1);
-        CHECK.same("READY", none.state(0, 0, 0), 1);
-        CHECK.same("DUE stays", none.state(0, 0, 3), 20);
-        CHECK.same("RELEASE stays", none.state(0, 0, 7), 0);
+    }
+
+    private static void call1WithoutDeadline() {
+        PartitionKernel k = one(30, 0, Asm.call(1, 9, 0));
+        k.begin();
+        k.run(4);
+        answer("call 1", k, 0);
+        CHECK.same("no DUE", k.state(0, 0, 3), -1);
+        CHECK.same("waits", k.state(0, 0, 4), 30);
+    }
+
+    private static void call1BehindError2() {
+        PartitionKernel k = one(30, 1, Asm.call(1, 9, 0));
+        k.begin();
+        k.run(3);
+        CHECK.same("too late: DUE is none", k.state(0, 0, 3), -1);
+        k.run(1);
+        CHECK.same("a new DUE", k.state(0, 0, 3), 31);
+    }
+
+    private static void call1WithoutPeriod() {
+        PartitionKernel k = one(0, 20, Asm.call(1, 9, 0));
+        k.begin();
+        k.run(4);
+        answer("call 1", k, 1);
+        CHECK.same("READY", k.state(0, 0, 0), 1);
+        CHECK.same("waits for none", k.state(0, 0, 4), -1);
+        CHECK.same("DUE stays", k.state(0, 0, 3), 20);
+        CHECK.same("RELEASE stays", k.state(0, 0, 7), 0);
     }
 
     /** A RELEASE that is past already: it waits for it all the same, and is READY in the next tick. */
@@ -115,89 +206,154 @@ final class CallsTest {
         CHECK.same("READY", k.state(0, 0, 0), 1);
     }
 
-    private static void call2Edges() {
-        int[] spans = {0, 1, 100000, 100001, -1, Integer.MIN_VALUE, Integer.MAX_VALUE};
-        for (int a : spans) {
-            PartitionKernel k = one(0, 0, Asm.li(17, 2), Asm.load(2, 10, 0, 512), Asm.CALL, Asm.idle());
-            k.poke(0, 512, a);
-            k.begin();
-            k.run(3);
-            boolean fits = a >= 0 && a <= 100000;
-            answer("call 2 of " + a, k, fits ? 0 : 1);
-            CHECK.same("state", k.state(0, 0, 0), fits ? 2 : 1);
-            CHECK.same("time", k.state(0, 0, 4), fits ? 2 + a : -1);
-            CHECK.same("next tick", k.run(1), a == 100000 ? 0 : 1);
+    private static void call2Nought() {
+        PartitionKernel k = called(caller(2, 0, 0));
+        answer("call 2", k, 0);
+        CHECK.same("it waits", k.state(0, 0, 0), 2);
+        CHECK.same("for now", k.state(0, 0, 4), 3);
+        CHECK.same("READY in the next tick", k.run(1), 1);
+        CHECK.same("READY", k.state(0, 0, 0), 1);
+    }
+
+    private static void call2Greatest() {
+        PartitionKernel k = called(caller(2, 100000, 0));
+        answer("call 2", k, 0);
+        CHECK.same("for", k.state(0, 0, 4), 100003);
+        for (int n = 0; n < 199; n++) {
+            k.run(500);
+        }
+        CHECK.same("not yet", k.run(499), 0);
+        CHECK.same("it waits", k.state(0, 0, 0), 2);
+        CHECK.same("TIME", k.about(0), 100003);
+        CHECK.same("now", k.run(1), 1);
+    }
+
+    private static void call2Else() {
+        for (int a : new int[] {-1, 100001, LEAST, GREATEST}) {
+            PartitionKernel k = called(caller(2, a, 0));
+            answer("call 2 of " + a, k, 1);
+            CHECK.same("READY", k.state(0, 0, 0), 1);
+            CHECK.same("waits for none", k.state(0, 0, 4), -1);
+            CHECK.same("it goes on", k.run(1), 1);
         }
     }
 
-    private static void call3Begin() {
-        PartitionKernel k = one(0, 0, Asm.join(Asm.call(3, 1, 0), Asm.call(3, 1, 0), Asm.call(3, 0, 0),
-            Asm.call(3, 2, 0), Asm.call(3, -1, 0), Asm.words(Asm.idle())));
-        k.process(0, 256, 9, 0, 40);
-        Asm.place(k, 0, 256, Asm.join(Asm.words(Asm.li(5, 6)), Asm.call(0, 0, 0)));
+    /** Process 0 sleeps, so that process 1 can do its program, and then makes a call. */
+    private static PartitionKernel besides(int call, int a, int b, int... other) {
+        PartitionKernel k = one(0, 0, Asm.join(Asm.call(2, 10, 0), Asm.call(call, a, b), Asm.words(Asm.idle())));
+        k.process(0, 256, 4, 0, 40);
+        Asm.place(k, 0, 256, other);
         k.begin();
-        k.run(5);
+        k.run(16);
+        return k;
+    }
+
+    private static void call3Begin() {
+        PartitionKernel k = besides(3, 1, 0, Asm.join(Asm.words(Asm.li(5, 6)), Asm.call(0, 0, 0)));
         CHECK.same("process 1 is DORMANT", k.state(0, 1, 0), 0);
-        k.run(4);
+        k.run(1);
         answer("call 3", k, 0);
         CHECK.same("READY", k.state(0, 1, 0), 1);
         CHECK.same("PC", k.state(0, 1, 1), 256);
         CHECK.same("registers", k.register(0, 1, 5), 0);
-        CHECK.same("x17", k.register(0, 1, 17), 0);
-        CHECK.same("RELEASE", k.state(0, 1, 7), 8);
-        CHECK.same("DUE", k.state(0, 1, 3), 48);
+        CHECK.same("RELEASE", k.state(0, 1, 7), 16);
+        CHECK.same("DUE", k.state(0, 1, 3), 56);
         CHECK.same("its instructions go on counting", k.state(0, 1, 6), 5);
-        CHECK.same("it is first", k.partition(0, 2), 1);
-        k.poke(0, 256, Asm.CALL);
+    }
+
+    private static void call3OfReady() {
+        PartitionKernel k = besides(3, 1, 0, Asm.li(5, 6), Asm.idle());
+        CHECK.same("process 1 is READY", k.state(0, 1, 0), 1);
         k.run(1);
-        CHECK.same("DORMANT by call 0", k.state(0, 1, 0), 0);
-        Asm.place(k, 0, 256, Asm.call(2, 90, 0));
-        k.run(4);
-        answer("call 3 again", k, 0);
-        k.run(4);
-        CHECK.same("waits", k.state(0, 1, 0), 2);
-        k.run(4);
-        answer("call 3 of itself", k, 1);
-        CHECK.same("PC", k.state(0, 0, 1), 48);
-        k.run(4);
-        answer("call 3 of none", k, 1);
-        k.run(4);
-        answer("call 3 of -1", k, 1);
-        PartitionKernel waits = one(0, 0, Asm.join(Asm.call(2, 1, 0), Asm.call(3, 1, 0)));
-        waits.process(0, 256, 1, 0, 0);
-        Asm.place(waits, 0, 256, Asm.CALL);
-        waits.process(1, 0, 1, 0, 0);
-        waits.begin();
-        waits.run(8);
-        answer("call 3 of one that is READY", waits, 1);
+        answer("call 3", k, 1);
+        CHECK.same("it does not BEGIN", k.register(0, 1, 5), 6);
+        CHECK.same("PC", k.state(0, 1, 1), 260);
+    }
+
+    private static void call3OfWaiting(int[] waits, int state) {
+        PartitionKernel k = besides(3, 1, 0, waits);
+        CHECK.same("process 1 WAITS", k.state(0, 1, 0), state);
+        k.run(1);
+        answer("call 3", k, 1);
+        CHECK.same("it WAITS still", k.state(0, 1, 0), state);
+        CHECK.same("RELEASE", k.state(0, 1, 7), 0);
+    }
+
+    private static void call3OfItself() {
+        PartitionKernel k = called(caller(3, 0, 9));
+        answer("call 3", k, 1);
+        CHECK.same("it does not BEGIN", k.register(0, 0, 11), 9);
+    }
+
+    private static void call3OfNone() {
+        for (int a : new int[] {-1, 1, 7, 8, LEAST, GREATEST}) {
+            PartitionKernel k = caller(3, a, 0);
+            for (int n = 0; n < 8; n++) {
+                k.process(1, 0, 5, 0, 0);
+            }
+            called(k);
+            answer("call 3 of " + a, k, 1);
+            CHECK.same("READY", k.state(0, 0, 0), 1);
+        }
     }
 
     private static void call4Priority() {
-        PartitionKernel k = one(0, 0, Asm.join(Asm.call(4, 1, 6), Asm.words(Asm.idle())));
-        k.process(0, 256, 1, 0, 0);
-        Asm.place(k, 0, 256, Asm.join(Asm.call(4, 1, 15), Asm.call(4, 1, 16), Asm.call(4, 1, -1),
-            Asm.call(4, 2, 3), Asm.call(4, -1, 3), Asm.call(4, 0, 0), Asm.words(Asm.idle())));
-        k.begin();
-        k.run(4);
+        PartitionKernel k = besides(4, 1, 6, Asm.idle());
+        CHECK.same("so far", k.state(0, 1, 2), 4);
+        k.run(1);
         answer("call 4", k, 0);
         CHECK.same("PRIORITY", k.state(0, 1, 2), 6);
+        CHECK.same("its own stays", k.state(0, 0, 2), 5);
         CHECK.same("it is first", k.partition(0, 2), 1);
-        int[] answers = {0, 1, 1, 1, 1, 0};
-        for (int n = 0; n < 6; n++) {
-            k.run(4);
-            CHECK.same("answer " + n, k.register(0, 1, 10), answers[n]);
-            CHECK.same("PRIORITY behind " + n, k.state(0, 1, 2), 15);
+        CHECK.same("it stays READY", k.state(0, 1, 0), 1);
+        PartitionKernel own = called(caller(4, 0, 3));
+        answer("call 4 of itself", own, 0);
+        CHECK.same("its own", own.state(0, 0, 2), 3);
+    }
+
+    private static void call4OfAnyState() {
+        int[][] programs = {Asm.call(0, 0, 0), Asm.words(Asm.idle()), Asm.call(2, 900, 0), Asm.call(6, 1, 0)};
+        for (int state = 0; state < 4; state++) {
+            PartitionKernel k = besides(4, 1, 6, programs[state]);
+            k.run(1);
+            answer("call 4", k, 0);
+            CHECK.same("STATE", k.state(0, 1, 0), state);
+            CHECK.same("PRIORITY", k.state(0, 1, 2), 6);
         }
-        CHECK.same("PRIORITY of another", k.state(0, 0, 2), 0);
-        PartitionKernel dormant = one(0, 0, Asm.join(Asm.call(4, 1, 2), Asm.call(3, 1, 0)));
-        dormant.process(0, 256, 9, 0, 0);
-        Asm.place(dormant, 0, 256, Asm.CALL);
-        dormant.begin();
-        dormant.run(5);
-        CHECK.same("PRIORITY of a DORMANT one", dormant.state(0, 1, 2), 2);
-        dormant.run(4);
-        CHECK.same("it BEGINS with it", dormant.state(0, 1, 2), 2);
-        CHECK.same("and is READY", dormant.state(0, 1, 0), 1);
+        PartitionKernel k = one(0, 0, Asm.join(Asm.call(4, 1, 2), Asm.call(3, 1, 0)));
+        k.process(0, 256, 9, 0, 0);
+        Asm.place(k, 0, 256, Asm.CALL);
+        k.begin();
+        k.run(9);
+        CHECK.same("a DORMANT one BEGINS with it", k.state(0, 1, 2), 2);
+        CHECK.same("and is READY", k.state(0, 1, 0), 1);
+    }
+
+    private static void call4Edges() {
+        for (int b : new int[] {0, 15}) {
+            PartitionKernel k = besides(4, 1, b, Asm.idle());
+            k.run(1);
+            answer("call 4 of " + b, k, 0);
+            CHECK.same("PRIORITY", k.state(0, 1, 2), b);
+        }
+    }
+
+    private static void call4OfOtherPriority() {
+        for (int b : new int[] {-1, 16, LEAST, GREATEST}) {
+            PartitionKernel k = called(caller(4, 0, b));
+            answer("call 4 of " + b, k, 1);
+            CHECK.same("PRIORITY stays", k.state(0, 0, 2), 5);
+        }
+    }
+
+    private static void call4OfNone() {
+        for (int a : new int[] {-1, 1, 7, 8, LEAST, GREATEST}) {
+            for (int b : new int[] {0, 15, 16}) {
+                PartitionKernel k = called(caller(4, a, b));
+                answer("call 4 of process " + a, k, 1);
+                CHECK.same("PRIORITY stays", k.state(0, 0, 2), 5);
+            }
+        }
     }
 
     /** A new PRIORITY changes nobody's place in the line of those who are READY. */
@@ -225,28 +381,68 @@ final class CallsTest {
         answer("call 5", k, 16);
     }
 
-    private static void call6And7Semaphore() {
-        PartitionKernel k = one(0, 0, Asm.join(Asm.call(7, 3, 0), Asm.call(6, 3, 0), Asm.call(6, 4, 0),
-            Asm.call(6, -1, 0), Asm.call(7, 4, 0), Asm.call(7, -1, 0), Asm.call(6, 3, 0)));
+    private static void call6AboveNought() {
+        PartitionKernel k = one(0, 0, Asm.join(Asm.call(7, 3, 0), Asm.call(7, 3, 0), Asm.call(6, 3, 0), Asm.call(6, 3, 0)));
         k.begin();
-        k.run(4);
-        answer("call 7", k, 0);
-        CHECK.same("count", k.partition(0, 7), 1);
-        k.run(4);
-        answer("call 6", k, 0);
-        CHECK.same("count", k.partition(0, 7), 0);
-        CHECK.same("READY", k.state(0, 0, 0), 1);
+        int[] counts = {1, 2, 1, 0};
         for (int n = 0; n < 4; n++) {
             k.run(4);
-            answer("no such semaphore " + n, k, 1);
+            answer("call " + n, k, 0);
+            CHECK.same("count", k.partition(0, 7), counts[n]);
             CHECK.same("READY", k.state(0, 0, 0), 1);
         }
-        k.run(4);
-        answer("call 6 that waits", k, 0);
-        CHECK.same("waits", k.state(0, 0, 0), 3);
+    }
+
+    private static void call6Waits() {
+        PartitionKernel k = called(caller(6, 3, 0));
+        answer("call 6", k, 0);
+        CHECK.same("it waits", k.state(0, 0, 0), 3);
         CHECK.same("for it", k.state(0, 0, 5), 3);
-        CHECK.same("PC", k.state(0, 0, 1), 112);
-        CHECK.same("waits on", k.run(100), 0);
+        CHECK.same("the count", k.partition(0, 7), 0);
+        CHECK.same("it waits on", k.run(100), 0);
+        PartitionKernel given = besides(7, 1, 0, Asm.join(Asm.call(6, 1, 0), Asm.words(Asm.idle())));
+        CHECK.same("it waits", given.state(0, 1, 0), 3);
+        given.run(1);
+        CHECK.same("READY", given.state(0, 1, 0), 1);
+        CHECK.same("waits for none", given.state(0, 1, 5), -1);
+        CHECK.same("its answer", given.register(0, 1, 10), 0);
+        CHECK.same("PC behind its call", given.state(0, 1, 1), 272);
+    }
+
+    private static void call6Each() {
+        for (int a = 0; a < 4; a++) {
+            PartitionKernel k = called(caller(6, a, 0));
+            CHECK.same("it waits for", k.state(0, 0, 5), a);
+            PartitionKernel gives = called(caller(7, a, 0));
+            for (int s = 0; s < 4; s++) {
+                CHECK.same("count of " + s, gives.partition(0, 4 + s), s == a ? 1 : 0);
+            }
+        }
+    }
+
+    /** Partition 1 gives semaphore 1 while partition 0 waits for its own semaphore 1. */
+    private static void semaphoresOfThisPartition() {
+        PartitionKernel k = caller(6, 1, 0);
+        k.process(1, 0, 5, 0, 0);
+        k.window(1, 10);
+        Asm.place(k, 1, 0, Asm.call(7, 1, 0));
+        k.begin();
+        k.run(14);
+        CHECK.same("it waits still", k.state(0, 0, 0), 3);
+        CHECK.same("the other's count", k.partition(1, 5), 1);
+        CHECK.same("its count", k.partition(0, 5), 0);
+    }
+
+    private static void noSemaphore(int call) {
+        for (int a : new int[] {-1, 4, 5, LEAST, GREATEST}) {
+            PartitionKernel k = called(caller(call, a, 0));
+            answer("semaphore " + a, k, 1);
+            CHECK.same("READY", k.state(0, 0, 0), 1);
+            CHECK.same("waits for none", k.state(0, 0, 5), -1);
+            for (int s = 4; s < 8; s++) {
+                CHECK.same("count", k.partition(0, s), 0);
+            }
+        }
     }
 
     /** Processes 1, 2, 3 wait for semaphore 2, process 4 for semaphore 1; process 0 gives. */
@@ -282,8 +478,20 @@ final class CallsTest {
         k.run(4);
         ready("the last", k, 1, 1, 1, 3);
         CHECK.same("the count is 0 so far", k.partition(0, 6), 0);
-        k.run(4);
-        ready("one of another semaphore waits on", k, 1, 1, 1, 3);
+    }
+
+    private static void call7NobodyWaits() {
+        PartitionKernel k = called(caller(7, 2, 0));
+        answer("call 7", k, 0);
+        CHECK.same("the count is one more", k.partition(0, 6), 1);
+        CHECK.same("READY", k.state(0, 0, 0), 1);
+    }
+
+    private static void call7OfAnother() {
+        PartitionKernel k = waiters(2, 3, 3);
+        k.run(49);
+        ready("who waits for semaphore 1 waits on", k, 1, 1, 1, 3);
+        answer("call 7", k, 0);
         CHECK.same("the count is one more", k.partition(0, 6), 1);
         CHECK.same("the other's count", k.partition(0, 5), 0);
     }
@@ -323,25 +531,99 @@ final class CallsTest {
         answer("no more", k, 1);
     }
 
-    private static void call8Send() {
-        PartitionKernel k = one(0, 0, Asm.join(Asm.call(8, 0, 41), Asm.call(8, 0, 42), Asm.call(8, 0, 43),
-            Asm.call(8, 1, 51), Asm.call(8, 1, 52), Asm.call(8, 3, 9), Asm.call(8, -1, 9),
-            Asm.call(8, 2, 9), Asm.words(Asm.idle())));
+    private static void call8Sample() {
+        PartitionKernel k = one(0, 0, Asm.join(Asm.call(8, 1, 51), Asm.call(8, 1, 52)));
         k.channel(true, 0, 1, 2);
-        k.channel(false, 0, 0, 5);
-        k.channel(true, 1, 0, 2);
+        k.channel(false, 0, 2, 5);
         k.begin();
-        int[] answers = {0, 0, 2, 0, 0, 1, 1, 1};
-        for (int n = 0; n < 8; n++) {
+        for (int n = 0; n < 2; n++) {
+            k.run(4);
+            answer("call 8", k, 0);
+            CHECK.same("it", k.word(1, 0), 51 + n);
+            CHECK.same("its time", k.traffic(1, 1), 3 + 4 * n);
+            CHECK.same("one", k.traffic(1, 0), 1);
+        }
+        CHECK.same("another channel", k.traffic(0, 0), 0);
+    }
+
+    private static void call8Queue() {
+        for (int b : new int[] {0, -1, LEAST, GREATEST}) {
+            PartitionKernel k = caller(8, 0, b);
+            k.channel(true, 0, 1, 2);
+            called(k);
+            answer("call 8", k, 0);
+            CHECK.same("words", k.traffic(0, 0), 1);
+            CHECK.same("it", k.word(0, 0), b);
+            CHECK.same("x11 stays", k.register(0, 0, 11), b);
+        }
+    }
+
+    private static void call8Full() {
+        PartitionKernel k = one(0, 0, Asm.join(Asm.call(8, 0, 41), Asm.call(8, 0, 42), Asm.call(8, 0, 43)));
+        k.channel(true, 0, 1, 2);
+        k.begin();
+        int[] answers = {0, 0, 2};
+        for (int n = 0; n < 3; n++) {
             k.run(4);
             answer("call 8, " + n, k, answers[n]);
         }
-        CHECK.same("queue", k.traffic(0, 0), 2);
+        CHECK.same("words", k.traffic(0, 0), 2);
         CHECK.same("first", k.word(0, 0), 41);
         CHECK.same("second", k.word(0, 1), 42);
-        CHECK.same("sample", k.word(1, 0), 52);
-        CHECK.same("its time", k.traffic(1, 1), 19);
-        CHECK.same("not from here", k.traffic(2, 0), 0);
+    }
+
+    private static void call8NotFromHere() {
+        for (int from = 1; from < 4; from++) {
+            for (boolean queue : new boolean[] {true, false}) {
+                PartitionKernel k = caller(8, 0, 9);
+                k.channel(queue, from, 0, 2);
+                called(k);
+                answer("call 8", k, 1);
+                CHECK.same("no word", k.traffic(0, 0), 0);
+            }
+        }
+    }
+
+    private static void noChannel(int call) {
+        for (int a : new int[] {-1, 2, 7, 8, 9, LEAST, GREATEST}) {
+            PartitionKernel k = caller(call, a, 6);
+            k.channel(true, 0, 0, 2);
+            k.channel(false, 0, 0, 2);
+            called(k);
+            answer("channel " + a, k, 1);
+            CHECK.same("x11 stays", k.register(0, 0, 11), 6);
+            CHECK.same("no word", k.traffic(0, 0) + k.traffic(1, 0), 0);
+        }
+    }
+
+    private static void call9Empty() {
+        PartitionKernel k = caller(9, 0, 6);
+        k.channel(true, 0, 0, 2);
+        called(k);
+        answer("call 9", k, 2);
+        CHECK.same("x11 stays", k.register(0, 0, 11), 6);
+    }
+
+    private static void call9NoSample() {
+        PartitionKernel k = caller(9, 0, 6);
+        k.channel(false, 0, 0, 100000);
+        called(k);
+        answer("call 9", k, 2);
+        CHECK.same("x11 stays", k.register(0, 0, 11), 6);
+    }
+
+    private static void call9NotToHere() {
+        for (int to = 1; to < 4; to++) {
+            for (boolean queue : new boolean[] {true, false}) {
+                PartitionKernel k = one(0, 0, Asm.join(Asm.call(8, 0, 9), Asm.call(9, 0, 6)));
+                k.channel(queue, 0, to, 8);
+                k.begin();
+                k.run(8);
+                answer("call 9", k, 1);
+                CHECK.same("x11 stays", k.register(0, 0, 11), 6);
+                CHECK.same("the word stays", k.traffic(0, 0), 1);
+            }
+        }
     }
 
     /** Queues of each length beside a plain one, sent to and taken from so often that they turn round. */
@@ -395,31 +677,57 @@ final class CallsTest {
             CHECK.same("x11 " + n, k.register(0, 0, 11), second[n]);
             CHECK.same("it stays " + n, k.traffic(0, 0), n == 0 ? 0 : 1);
         }
-        PartitionKernel fresh = one(0, 0, Asm.li(11, 6), Asm.li(17, 8), Asm.CALL, Asm.li(17, 9), Asm.li(10, 0), Asm.CALL);
-        fresh.channel(false, 0, 0, 2);
-        fresh.begin();
-        fresh.run(6);
-        answer("one tick past the LIMIT", fresh, 3);
-        PartitionKernel edge = one(0, 0, Asm.li(11, 6), Asm.li(17, 8), Asm.CALL, Asm.li(17, 9), Asm.li(10, 0), Asm.CALL);
-        edge.channel(false, 0, 0, 3);
-        edge.begin();
-        edge.run(6);
-        answer("just at the LIMIT", edge, 0);
     }
 
-    private static void channelsOfOthers() {
-        PartitionKernel k = one(0, 0, Asm.join(Asm.call(9, 0, 5), Asm.call(9, 1, 5), Asm.call(9, 2, 5),
-            Asm.call(9, 3, 5), Asm.call(9, -1, 5), Asm.call(8, 1, 5)));
-        k.channel(true, 0, 1, 2);
-        k.channel(false, 1, 2, 2);
-        k.channel(true, 2, 0, 2);
+    /** A sample is sent in the tick 2, and read so many ticks later. */
+    private static int readLater(int ticks, int limit) {
+        PartitionKernel k = one(0, 0, Asm.li(11, 6), Asm.li(17, 8), Asm.CALL, Asm.li(17, 2), Asm.load(2, 10, 0, 512),
+            Asm.CALL, Asm.li(17, 9), Asm.li(10, 0), Asm.CALL);
+        k.poke(0, 512, ticks - 5);
+        k.channel(false, 0, 0, limit);
         k.begin();
-        int[] answers = {1, 1, 2, 1, 1, 1};
-        for (int n = 0; n < 6; n++) {
-            k.run(4);
-            answer("others' channel " + n, k, answers[n]);
-            CHECK.same("x11 stays", k.register(0, 0, 11), 5);
+        for (int left = 3 + ticks; left > 0; left -= 500) {
+            k.run(Math.min(left, 500));
         }
+        CHECK.same("its time", k.traffic(0, 1), 2);
+        CHECK.same("instructions", k.about(2), 9);
+        CHECK.same("x11", k.register(0, 0, 11), 6);
+        return k.register(0, 0, 10);
+    }
+
+    private static void call9Limits() {
+        for (int ticks : new int[] {7, 8, 20, 400}) {
+            CHECK.same("less than LIMIT", readLater(ticks, ticks + 1), 0);
+            CHECK.same("just LIMIT", readLater(ticks, ticks), 0);
+            CHECK.same("one more", readLater(ticks, ticks - 1), 3);
+            CHECK.same("LIMIT 0", readLater(ticks, 0), 3);
+        }
+    }
+
+    /** Windows of one tick each: partition 0 sends in the tick 6, partition 1 reads in the tick 7. */
+    private static void call9NextTick() {
+        int[] answers = {3, 0};
+        for (int limit = 0; limit < 2; limit++) {
+            PartitionKernel k = new PartitionKernel();
+            k.process(0, 0, 0, 0, 0);
+            k.process(1, 0, 0, 0, 0);
+            k.window(0, 1);
+            k.window(1, 1);
+            k.channel(false, 0, 1, limit);
+            Asm.place(k, 0, 0, Asm.call(8, 0, 42));
+            Asm.place(k, 1, 0, Asm.call(9, 0, 0));
+            k.begin();
+            k.run(8);
+            CHECK.same("its time", k.traffic(0, 1), 6);
+            CHECK.same("x11", k.register(1, 0, 11), 42);
+            CHECK.same("LIMIT " + limit, k.register(1, 0, 10), answers[limit]);
+        }
+    }
+
+    private static void call9GreatestLimit() {
+        CHECK.same("99999 ticks later", readLater(99999, 100000), 0);
+        CHECK.same("100000 ticks later", readLater(100000, 100000), 0);
+        CHECK.same("100001 ticks later", readLater(100001, 100000), 3);
     }
 
     private static void call10Raise() {
@@ -439,18 +747,18 @@ final class CallsTest {
     }
 
     private static void otherCalls() {
-        for (int number : new int[] {11, 12, 2047, -1, -2048}) {
-            PartitionKernel k = one(0, 0, Asm.call(number, 7, 8));
-            k.begin();
-            k.run(4);
-            CHECK.same("call " + number + ": kind", k.error(0, 3), 0);
-            CHECK.same("call " + number + ": PC", k.state(0, 0, 1), 16);
-            CHECK.same("call " + number + ": x10", k.register(0, 0, 10), 7);
-            PartitionKernel stops = one(0, 0, Asm.call(number, 7, 8));
-            stops.action(0, 0, 4);
-            stops.begin();
-            stops.run(4);
-            CHECK.same("call " + number + ": PC is where it went wrong", stops.state(0, 0, 1), 12);
+        for (int number : new int[] {-1, 11, 12, LEAST, GREATEST}) {
+            for (int action = 0; action < 2; action++) {
+                PartitionKernel k = one(0, 0, Asm.load(2, 17, 0, 1016), Asm.li(10, 7), Asm.li(11, 8), Asm.CALL);
+                k.poke(0, 1016, number);
+                k.action(0, 0, action);
+                k.begin();
+                k.run(4);
+                CHECK.same("call " + number + ": errors", k.about(1), 1);
+                CHECK.same("call " + number + ": kind", k.error(0, 3), 0);
+                CHECK.same("call " + number + ": PC", k.state(0, 0, 1), action == 0 ? 16 : 12);
+                CHECK.same("call " + number + ": x10", k.register(0, 0, 10), 7);
+            }
         }
     }
 

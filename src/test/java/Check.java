@@ -1,11 +1,31 @@
 /** Counts the answers that are not the ones that are due, and ends the test by them. */
 final class Check {
+    private static final int TOLD = 40;
+
     private final String name;
+    private String sentence = "";
     private int asked;
     private int wrong;
+    private int sentences;
 
     Check(String name) {
         this.name = name;
+    }
+
+    /** A test of its own for one sentence of the document; it must ask for an answer at least. */
+    void sentence(String text, Runnable test) {
+        sentence = " [" + text + "]";
+        sentences++;
+        int before = asked;
+        try {
+            test.run();
+        } catch (RuntimeException e) {
+            tell("the test was ended by " + e + " at " + e.getStackTrace()[0]);
+        }
+        if (asked == before) {
+            tell("nothing was asked");
+        }
+        sentence = "";
     }
 
     void same(String call, long got, long due) {
@@ -41,13 +61,13 @@ final class Check {
 
     private void tell(String text) {
         wrong++;
-        if (wrong <= 20) {
-            System.out.println(name + ": " + text);
+        if (wrong <= TOLD) {
+            System.out.println(name + sentence + ": " + text);
         }
     }
 
     void finish() {
-        System.out.println(name + ": " + asked + " answers, " + wrong + " wrong");
+        System.out.println(name + ": " + sentences + " sentences, " + asked + " answers, " + wrong + " wrong");
         if (wrong != 0 || asked == 0) {
             System.exit(1);
         }

@@ -1,23 +1,49 @@
-/** The term of a TICK: whose it is, who wakes, who is too late, who does the instruction. */
+/** The term of a TICK, sentence by sentence: whose it is, who wakes, who is too late, who works. */
 final class TickTest {
     private static final Check CHECK = new Check("TickTest");
 
     public static void main(String[] args) {
-        windows();
-        greatestPriority();
-        equalsDoNotTakeTurns();
-        sleepersByTimeThenNumber();
-        fullPartition();
-        sleepersStandBehind();
-        sleeperWakesInItsWindowAlone();
-        semaphoreStandsBehind();
-        dueIsStrict();
-        dueOfThoseWhoWait();
-        dueByNumbersBeforeTheInstruction();
-        dueThatBeginsStandsBehind();
-        dueThatRestsLetsOthersWork();
-        dueThatEndsTheTick();
+        CHECK.sentence("A TICK is that of the partition whose window it is", TickTest::windows);
+        CHECK.sentence("nothing happens in one that is STOPPED", TickTest::stoppedOne);
+        wakes();
+        dues();
+        works();
+        CHECK.sentence("Then TIME is one more", TickTest::timeIsOneMore);
         CHECK.finish();
+    }
+
+    private static void wakes() {
+        CHECK.sentence("WAIT for a time not above now", TickTest::sleeperWakesAtItsTime);
+        CHECK.sentence("WAIT for a time that is past", TickTest::sleeperWakesInItsWindowAlone);
+        CHECK.sentence("WAIT for now itself", TickTest::sleepersStandBehind);
+        CHECK.sentence("the earlier time first", TickTest::sleepersByTime);
+        CHECK.sentence("then by numbers", TickTest::sleepersByNumber);
+        CHECK.sentence("eight that wake at once", TickTest::eightWake);
+    }
+
+    private static void dues() {
+        CHECK.sentence("with a DUE that is below now", TickTest::dueIsStrict);
+        CHECK.sentence("DUE is none, error 2", TickTest::dueOnce);
+        CHECK.sentence("each process: also one that WAITS for a time", TickTest::dueOfASleeper);
+        CHECK.sentence("each process: also one that WAITS for a semaphore", TickTest::dueOfAWaiter);
+        CHECK.sentence("each process: also one that woke in this tick", TickTest::dueOfOneThatWoke);
+        CHECK.sentence("Then for each process: who wakes comes ahead of it", TickTest::wakesAheadOfDue);
+        CHECK.sentence("not DORMANT", TickTest::dueOfADormantOne);
+        CHECK.sentence("a DUE in another's window", TickTest::dueWaitsForItsWindow);
+        CHECK.sentence("for each process, by numbers", TickTest::dueByNumbersBeforeTheInstruction);
+        CHECK.sentence("eight that are too late at once", TickTest::eightLate);
+        CHECK.sentence("error 2 with action 1: the tick goes on", TickTest::dueThatRestsLetsOthersWork);
+        CHECK.sentence("error 2 with action 2: the tick goes on", TickTest::dueThatBeginsStandsBehind);
+        CHECK.sentence("With an error whose action is 3 the tick is over", TickTest::dueThatBeginsAllEndsTheTick);
+        CHECK.sentence("With an error whose action is 4 the tick is over", TickTest::dueThatStopsEndsTheTick);
+    }
+
+    private static void works() {
+        CHECK.sentence("the one with the greatest PRIORITY", TickTest::greatestPriority);
+        CHECK.sentence("the greatest PRIORITY, also if it woke in this tick", TickTest::sleeperTakesTheTick);
+        CHECK.sentence("the first one of these", TickTest::equalsDoNotTakeTurns);
+        CHECK.sentence("of those READY: none", TickTest::nobodyReady);
+        CHECK.sentence("one instruction a tick", TickTest::oneInstructionATick);
     }
 
     private static PartitionKernel idlers(int... priorities) {
@@ -55,6 +81,50 @@ final class TickTest {
         CHECK.same("x5", k.register(3, 0, 5), 40);
     }
 
+    /** Process 0 sleeps until 5, process 1 is due at 6, process 2 stops the partition in the tick 4. */
+    private static void stoppedOne() {
+        PartitionKernel k = new PartitionKernel();
+        k.process(0, 0, 9, 0, 0);
+        k.process(0, 64, 1, 0, 6);
+        k.process(0, 128, 5, 0, 0);
+        Asm.place(k, 0, 0, Asm.call(2, 2, 0));
+        Asm.place(k, 0, 64, Asm.idle());
+        k.action(0, 0, 4);
+        k.window(0, 10);
+        k.begin();
+        CHECK.same("until it is STOPPED", k.run(5), 5);
+        CHECK.same("STOPPED", k.partition(0, 0), 1);
+        CHECK.same("no instruction", k.run(100), 0);
+        CHECK.same("the sleeper sleeps", k.state(0, 0, 0), 2);
+        CHECK.same("for its time", k.state(0, 0, 4), 5);
+        CHECK.same("the DUE stays", k.state(0, 1, 3), 6);
+        CHECK.same("no error more", k.about(1), 1);
+        CHECK.same("TIME", k.about(0), 105);
+        k.action(0, 0, 0);
+        CHECK.same("another action starts nothing", k.run(100), 0);
+    }
+
+    private static void timeIsOneMore() {
+        PartitionKernel k = new PartitionKernel();
+        k.process(0, 0, 9, 0, 0);
+        k.process(1, 4, 9, 0, 0);
+        k.process(2, 0, 9, 0, 0);
+        k.action(0, 0, 3);
+        k.action(1, 0, 4);
+        k.poke(2, 0, Asm.CALL);
+        for (int p = 0; p < 4; p++) {
+            k.window(p, 1);
+        }
+        k.begin();
+        for (int t = 0; t < 12; t++) {
+            CHECK.same("TIME", k.about(0), t);
+            k.run(1);
+        }
+        CHECK.same("partition 0 began again", k.partition(0, 3), 3);
+        CHECK.same("partition 1 is STOPPED", k.partition(1, 0), 1);
+        CHECK.same("partition 2 has nobody READY", k.partition(2, 2), -1);
+    }
+
     private static void greatestPriority() {
         PartitionKernel k = idlers(3, 14, 15, 15, 0);
         k.window(0, 7);
@@ -70,6 +140,43 @@ final class TickTest {
         k.begin();
         k.run(40);
         did("the first one goes on", k, 0, 20, 0, 0);
+    }
+
+    private static void sleeperTakesTheTick() {
+        PartitionKernel k = new PartitionKernel();
+        k.process(0, 0, 3, 0, 0);
+        k.process(0, 64, 4, 0, 0);
+        Asm.place(k, 0, 0, Asm.idle());
+        Asm.place(k, 0, 64, Asm.join(Asm.call(2, 3, 0), Asm.words(Asm.idle())));
+        k.window(0, 10);
+        k.begin();
+        k.run(6);
+        did("ahead of its time", k, 0, 2, 4);
+        k.run(1);
+        did("at its time", k, 0, 2, 5);
+    }
+
+    private static void nobodyReady() {
+        PartitionKernel k = new PartitionKernel();
+        k.process(0, 0, 3, 0, 0);
+        k.poke(0, 0, Asm.CALL);
+        k.window(0, 1);
+        k.window(1, 1);
+        k.begin();
+        CHECK.same("the only instruction", k.run(2), 1);
+        CHECK.same("a DORMANT one, and no process at all", k.run(100), 0);
+        CHECK.same("no error", k.about(1), 0);
+        CHECK.same("TIME", k.about(0), 102);
+    }
+
+    private static void oneInstructionATick() {
+        PartitionKernel k = idlers(3, 3, 4);
+        k.window(0, 7);
+        k.begin();
+        for (int t = 1; t <= 10; t++) {
+            CHECK.same("run(1)", k.run(1), 1);
+            CHECK.same("in all", k.about(2), t);
+        }
     }
 
     /** Four processes of one PRIORITY that fall asleep one after the other in the first window. */
@@ -96,28 +203,54 @@ final class TickTest {
         }
     }
 
-    private static void sleepersByTimeThenNumber() {
-        // They wait from 3, 7, 11, 15 on: for 40, 30, 30, 35.
-        PartitionKernel k = sleepers(37, 23, 19, 20);
-        k.run(50);
-        CHECK.same("time of 0", k.state(0, 0, 4), 40);
-        CHECK.same("time of 1", k.state(0, 1, 4), 30);
-        CHECK.same("time of 2", k.state(0, 2, 4), 30);
-        CHECK.same("time of 3", k.state(0, 3, 4), 35);
-        order("earlier first, then by numbers", k, 1, 2, 3, 0);
-        PartitionKernel same = sleepers(47, 43, 39, 35);
-        same.run(50);
-        order("by numbers", same, 0, 1, 2, 3);
-        PartitionKernel back = sleepers(47, 42, 37, 32);
-        back.run(50);
-        order("by times alone", back, 3, 2, 1, 0);
+    private static void sleeperWakesAtItsTime() {
+        PartitionKernel k = new PartitionKernel();
+        k.process(0, 0, 5, 0, 0);
+        Asm.place(k, 0, 0, Asm.join(Asm.call(2, 4, 0), Asm.words(Asm.idle())));
+        k.window(0, 20);
+        k.begin();
+        k.run(4);
+        CHECK.same("it waits for 7", k.state(0, 0, 4), 7);
+        CHECK.same("nothing at 4, 5, 6", k.run(3), 0);
+        CHECK.same("it waits still", k.state(0, 0, 0), 2);
+        CHECK.same("its instruction at 7", k.run(1), 1);
+        CHECK.same("it is READY", k.state(0, 0, 0), 1);
     }
 
-    /** Eight sleepers of different times, and eight that are too late: a full partition. */
-    private static void fullPartition() {
+    private static void sleepersByTime() {
+        // They wait from 3, 7, 11, 15 on: for 40, 30, 32, 35.
+        PartitionKernel k = sleepers(37, 23, 21, 20);
+        k.run(50);
+        int[] times = {40, 30, 32, 35};
+        for (int n = 0; n < 4; n++) {
+            CHECK.same("time of " + n, k.state(0, n, 4), times[n]);
+        }
+        order("by times", k, 1, 2, 3, 0);
+        PartitionKernel back = sleepers(47, 42, 37, 32);
+        back.run(50);
+        order("by times, against the numbers", back, 3, 2, 1, 0);
+    }
+
+    private static void sleepersByNumber() {
+        PartitionKernel same = sleepers(47, 43, 39, 35);
+        same.run(50);
+        for (int n = 0; n < 4; n++) {
+            CHECK.same("time of " + n, same.state(0, n, 4), 50);
+        }
+        order("by numbers", same, 0, 1, 2, 3);
+        // They wait for 40, 30, 30, 35.
+        PartitionKernel mixed = sleepers(37, 23, 19, 20);
+        mixed.run(50);
+        order("by times, then by numbers", mixed, 1, 2, 3, 0);
+    }
+
+    private static void eightWake() {
         PartitionKernel k = sleepers(31, 31, 31, 31, 31, 31, 31, 31);
         k.run(50);
         order("eight by their times", k, 0, 1, 2, 3, 4, 5, 6, 7);
+    }
+
+    private static void eightLate() {
         PartitionKernel late = new PartitionKernel();
         for (int n = 0; n < 8; n++) {
             late.process(0, 0, n, 0, 8 - n);
@@ -164,22 +297,6 @@ final class TickTest {
         did("and did its instruction", k, 0, 5);
     }
 
-    private static void semaphoreStandsBehind() {
-        PartitionKernel k = new PartitionKernel();
-        k.process(0, 0, 5, 0, 0);
-        k.process(0, 64, 5, 0, 0);
-        k.process(0, 128, 5, 0, 0);
-        Asm.place(k, 0, 0, Asm.join(Asm.call(6, 0, 0), Asm.words(Asm.idle())));
-        Asm.place(k, 0, 64, Asm.join(Asm.call(7, 0, 0), Asm.call(0, 0, 0)));
-        Asm.place(k, 0, 128, Asm.idle());
-        k.window(0, 9);
-        k.begin();
-        k.run(8);
-        CHECK.same("it is READY", k.state(0, 0, 0), 1);
-        k.run(9);
-        did("behind all who were", k, 0, 4, 8, 5);
-    }
-
     private static PartitionKernel late(int deadline, int... program) {
         PartitionKernel k = new PartitionKernel();
         k.process(0, 0, 5, 0, deadline);
@@ -198,27 +315,88 @@ final class TickTest {
         CHECK.same("at 6 it is not", k.about(1), 1);
         CHECK.same("time", k.error(0, 0), 6);
         CHECK.same("kind", k.error(0, 3), 2);
+    }
+
+    private static void dueOnce() {
+        PartitionKernel k = late(5, Asm.idle());
+        k.run(7);
         CHECK.same("DUE is none", k.state(0, 0, 3), -1);
         CHECK.same("action 0 leaves PC", k.state(0, 0, 1), 0);
         k.run(100);
         CHECK.same("once alone", k.about(1), 1);
     }
 
-    private static void dueOfThoseWhoWait() {
+    private static void dueOfASleeper() {
         PartitionKernel k = late(5, Asm.call(2, 300, 0));
         k.run(7);
-        CHECK.same("asleep and too late", k.error(0, 3), 2);
+        CHECK.same("too late", k.error(0, 3), 2);
         CHECK.same("waits on", k.state(0, 0, 0), 2);
         CHECK.same("for its time", k.state(0, 0, 4), 303);
         CHECK.same("PC", k.state(0, 0, 1), 16);
-        PartitionKernel s = late(5, Asm.call(6, 1, 0));
-        s.run(7);
-        CHECK.same("at a semaphore and too late", s.error(0, 3), 2);
-        CHECK.same("waits on", s.state(0, 0, 0), 3);
-        CHECK.same("for it", s.state(0, 0, 5), 1);
-        PartitionKernel dormant = late(5, Asm.call(0, 0, 0));
-        dormant.run(40);
-        CHECK.same("a DORMANT one is never too late", dormant.about(1), 0);
+    }
+
+    private static void dueOfAWaiter() {
+        PartitionKernel k = late(5, Asm.call(6, 1, 0));
+        k.run(7);
+        CHECK.same("too late", k.error(0, 3), 2);
+        CHECK.same("waits on", k.state(0, 0, 0), 3);
+        CHECK.same("for it", k.state(0, 0, 5), 1);
+    }
+
+    /** It wakes at 6, when its DUE is past: action 1 takes it before it can do anything. */
+    private static void dueOfOneThatWoke() {
+        PartitionKernel k = late(5, Asm.call(2, 3, 0));
+        k.action(0, 2, 1);
+        CHECK.same("no instruction at 6", k.run(7), 4);
+        CHECK.same("too late", k.error(0, 3), 2);
+        CHECK.same("at", k.error(0, 0), 6);
+        CHECK.same("DORMANT", k.state(0, 0, 0), 0);
+        CHECK.same("waits for no time", k.state(0, 0, 4), -1);
+    }
+
+    /** In the tick 9 process 0 is too late and process 1 wakes; they have one PRIORITY by then. */
+    private static PartitionKernel wakesWhenLate(int action) {
+        PartitionKernel k = new PartitionKernel();
+        k.process(0, 0, 5, 0, 8);
+        k.process(0, 64, 6, 0, 0);
+        Asm.place(k, 0, 0, Asm.join(Asm.call(4, 1, 5), Asm.words(Asm.idle())));
+        Asm.place(k, 0, 64, Asm.li(17, 2), Asm.li(10, 7), Asm.CALL, Asm.idle());
+        k.action(0, 2, action);
+        k.window(0, 20);
+        k.begin();
+        k.run(9);
+        CHECK.same("it sleeps", k.state(0, 1, 4), 9);
+        CHECK.same("its PRIORITY", k.state(0, 1, 2), 5);
+        k.run(1);
+        CHECK.same("too late", k.error(0, 0), 9);
+        return k;
+    }
+
+    private static void wakesAheadOfDue() {
+        PartitionKernel k = wakesWhenLate(2);
+        did("who BEGINS stands behind who woke", k, 0, 6, 4);
+        PartitionKernel stops = wakesWhenLate(4);
+        CHECK.same("STOPPED", stops.partition(0, 0), 1);
+        CHECK.same("but awake", stops.state(0, 1, 0), 1);
+    }
+
+    private static void dueOfADormantOne() {
+        PartitionKernel k = late(5, Asm.call(0, 0, 0));
+        k.run(40);
+        CHECK.same("never too late", k.about(1), 0);
+    }
+
+    private static void dueWaitsForItsWindow() {
+        PartitionKernel k = new PartitionKernel();
+        k.process(0, 0, 5, 0, 1);
+        k.poke(0, 0, Asm.idle());
+        k.window(0, 2);
+        k.window(1, 20);
+        k.begin();
+        k.run(22);
+        CHECK.same("none in another's window", k.about(1), 0);
+        k.run(1);
+        CHECK.same("in its own", k.error(0, 0), 22);
     }
 
     /** Three idle processes that are too late at 4, 2 and 4. */
@@ -279,7 +457,7 @@ final class TickTest {
         did("of the one without a DEADLINE", k, 0, 0, 0, 0, 1);
     }
 
-    private static void dueThatEndsTheTick() {
+    private static void dueThatBeginsAllEndsTheTick() {
         PartitionKernel k = lateOnes(3);
         CHECK.same("no instruction", k.run(1), 0);
         CHECK.same("TIME", k.about(0), 5);
@@ -289,16 +467,18 @@ final class TickTest {
         CHECK.same("DUE", k.state(0, 0, 3), 7);
         CHECK.same("DUE", k.state(0, 1, 3), 5);
         CHECK.same("DUE", k.state(0, 2, 3), 7);
-        PartitionKernel stops = lateOnes(4);
-        CHECK.same("no instruction", stops.run(1), 0);
-        CHECK.same("TIME", stops.about(0), 5);
-        CHECK.same("one error", stops.about(1), 1);
-        CHECK.same("stopped", stops.partition(0, 0), 1);
-        CHECK.same("DUE is none", stops.state(0, 0, 3), -1);
-        CHECK.same("the others' DUE stays", stops.state(0, 1, 3), 1);
-        stops.run(100);
-        CHECK.same("nothing happens in it", stops.about(1), 1);
-        CHECK.same("TIME goes on", stops.about(0), 105);
+        CHECK.same("an instruction in the next tick", k.run(1), 1);
+    }
+
+    private static void dueThatStopsEndsTheTick() {
+        PartitionKernel k = lateOnes(4);
+        CHECK.same("no instruction", k.run(1), 0);
+        CHECK.same("TIME", k.about(0), 5);
+        CHECK.same("one error", k.about(1), 1);
+        CHECK.same("STOPPED", k.partition(0, 0), 1);
+        CHECK.same("DUE is none", k.state(0, 0, 3), -1);
+        CHECK.same("the others' DUE stays", k.state(0, 1, 3), 1);
+        CHECK.same("no instruction later", k.run(100), 0);
     }
 
     private TickTest() {
